@@ -15,7 +15,13 @@ public final class ModelTest {
     private final Due due = new Due();
     private long seed;
     private int run;
-    private int manners;
+    /** How this run draws: how its stations lie, how urgent and how long its calls are, how fast time goes. */
+    private int coast;
+    private boolean isUrgent;
+    private int mostMinutes;
+    private int mostToPass;
+    private int callsOf100;
+    private int mostWaiting;
     private FoghornExchange exchange;
     private Face real;
     private Face model;
@@ -37,7 +43,12 @@ public final class ModelTest {
 
     private void makeRun() {
         seed = run;
-        manners = draw(4);
+        coast = draw(5);
+        isUrgent = draw(3) == 0;
+        mostMinutes = draw(2) == 0 ? 3 : 14;
+        mostToPass = 1 + draw(10);
+        callsOf100 = 30 + draw(30);
+        mostWaiting = 2 + draw(30);
         exchange = new FoghornExchange();
         plain = new PlainExchange();
         real = new Face(exchange);
@@ -68,11 +79,11 @@ public final class ModelTest {
     }
 
     private int place() {
-        return manners == 0 ? draw(301) : draw(manners * 60 + 1);
+        return coast == 0 ? draw(301) : draw(coast * 60 + 1);
     }
 
     private int reach() {
-        return manners == 3 ? 1 + draw(100) : 20 + draw(40);
+        return coast == 3 ? 1 + draw(100) : 20 + draw(60);
     }
 
     /** Mostly a station that exists, now and then any number. */
@@ -89,28 +100,38 @@ public final class ModelTest {
     }
 
     private char urgency() {
-        return draw(24) == 0 ? ODD_SIGNS[draw(ODD_SIGNS.length)] : "dusr".charAt(draw(4));
+        if (draw(24) == 0) {
+            return ODD_SIGNS[draw(ODD_SIGNS.length)];
+        }
+        return isUrgent ? "duuuus".charAt(draw(6)) : "dusr".charAt(draw(4));
     }
 
     private void drawCall() {
+        // A line full of calls that have no way leaves too little to happen, so some of them are cancelled.
+        if (plain.waiting() > mostWaiting && draw(3) == 0) {
+            ask("cancel", plain.inLine(draw(plain.waiting())));
+            return;
+        }
+        if (draw(100) < callsOf100) {
+            ask("call", station(), station(), urgency(), draw(24) == 0 ? odd() : 1 + draw(mostMinutes));
+            return;
+        }
         int kind = draw(100);
-        if (kind < 34) {
-            ask("call", station(), station(), urgency(), draw(12) == 0 ? odd() : 1 + draw(12));
-        } else if (kind < 50) {
-            ask("pass", draw(16) == 0 ? odd() : 1 + draw(1 + draw(5)));
-        } else if (kind < 56) {
+        if (kind < 36) {
+            ask("pass", draw(24) == 0 ? odd() : 1 + draw(mostToPass));
+        } else if (kind < 46) {
             ask("raise", call(), urgency());
-        } else if (kind < 60) {
+        } else if (kind < 54) {
             ask("cancel", call());
-        } else if (kind < 67) {
-            ask("setOn", station(), draw(3) != 0);
+        } else if (kind < 64) {
+            ask("setOn", station(), draw(4) != 0);
         } else if (kind < 72) {
             ask("move", station(), draw(8) == 0 ? odd() : place());
-        } else if (kind < 74) {
+        } else if (kind < 76) {
             ask("addStation", draw(8) == 0 ? odd() : place(), draw(8) == 0 ? odd() : reach());
-        } else if (kind < 78) {
-            ask("setWatch", station(), draw(4) == 0 ? odd() : 5 + draw(8));
         } else if (kind < 80) {
+            ask("setWatch", station(), draw(3) == 0 ? odd() : 5 + draw(20));
+        } else if (kind < 84) {
             ask("report", station());
         } else {
             drawQuestion();
