@@ -32,6 +32,13 @@ public final class OrderTest {
         due.is("39 two more wait", true, y::isInOrder);
         set(element(get(y, "coast"), "row", 2), "on", true);
         due.is("39 the last of the line can begin", false, y::isInOrder);
+        FoghornExchange z = Coasts.at(50, 0, 40, 300);
+        z.setOn(1, false);
+        z.call(0, 1, 'd', 5);
+        z.call(0, 2, 'r', 5);
+        due.is("39 again two wait", true, z::isInOrder);
+        set(element(get(z, "coast"), "row", 1), "on", true);
+        due.is("39 the first alone can begin", false, z::isInOrder);
     }
 
     private void aCallSpeaksOnAChannelItMayNotHave() throws ReflectiveOperationException {
