@@ -1,4 +1,7 @@
+import java.lang.reflect.InvocationTargetException;
+import java.lang.reflect.Method;
 import java.util.Objects;
+import java.util.TreeMap;
 
 /** Compares answers with the due ones, and tells and counts those that differ. */
 final class Due {
@@ -9,6 +12,7 @@ final class Due {
 
     private int looked = 0;
     private int wrong = 0;
+    private String test = "";
 
     /** The answer of a call: its value, or the full name of what it throws. */
     static Object answerOf(Call call) {
@@ -27,7 +31,7 @@ final class Due {
         looked++;
         if (!Objects.equals(want, got)) {
             wrong++;
-            System.out.println(what + ": answered " + got + ", due is " + want);
+            System.out.println(test + what + ": answered " + got + ", due is " + want);
         }
     }
 
@@ -40,6 +44,43 @@ final class Due {
         String before = Snapshot.of(x);
         fails(what, want, call);
         same(what + " changes nothing", before, Snapshot.of(x));
+    }
+
+    /**
+     * Runs each method of an object that is named after one of these promises, so that none can be
+     * forgotten; a promise without such a method is wrong.
+     */
+    void runPromises(Object tests, int first, int last) {
+        TreeMap<String, Method> methods = new TreeMap<>();
+        for (Method method : tests.getClass().getDeclaredMethods()) {
+            if (method.getName().startsWith("promise")) {
+                methods.put(method.getName(), method);
+            }
+        }
+        for (int promise = first; promise <= last; promise++) {
+            int found = 0;
+            for (Method method : methods.values()) {
+                if (method.getName().matches("promise" + promise + "\\D.*")) {
+                    found++;
+                    runOne(tests, method);
+                }
+            }
+            same("promise " + promise + " has a test", true, found > 0);
+        }
+    }
+
+    private void runOne(Object tests, Method method) {
+        test = method.getName() + ": ";
+        int before = looked;
+        try {
+            method.invoke(tests);
+        } catch (InvocationTargetException stopped) {
+            same("runs to its end", "no exception", stopped.getCause());
+        } catch (IllegalAccessException refused) {
+            throw new IllegalStateException(method.getName(), refused);
+        }
+        same("looks at answers", true, looked > before);
+        test = "";
     }
 
     int wrong() {

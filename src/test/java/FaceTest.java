@@ -86,6 +86,16 @@ public final class FaceTest {
         due.same("private methods with the name of a public one", new TreeSet<String>(), hidden);
     }
 
+    /** The number of a method's promise: they stand in the order of the face, behind the constructor's. */
+    static int promiseOf(String method) {
+        for (int index = 0; index < FACE.length; index++) {
+            if (FACE[index].contains(" " + method + "(")) {
+                return index + 2;
+            }
+        }
+        throw new IllegalArgumentException(method);
+    }
+
     private static String signature(Method method) {
         List<String> arguments = new ArrayList<>();
         for (Class<?> argument : method.getParameterTypes()) {

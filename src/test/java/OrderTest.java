@@ -13,6 +13,7 @@ public final class OrderTest {
         test.aCallSpeaksOnAChannelItMayNotHave();
         test.aStationBelongsToTwoCalls();
         test.theLineIsAnotherOneByCounting();
+        test.theRelaysAreOthersByJoining();
         test.due.close("OrderTest");
     }
 
@@ -79,6 +80,18 @@ public final class OrderTest {
             ordered[rank + 1] = ordered[rank];
             ordered[rank] = first;
         }
+    }
+
+    /** Too short a row for the stations that steps have reached: ways of two steps are found by joining alone. */
+    private void theRelaysAreOthersByJoining() throws ReflectiveOperationException {
+        FoghornExchange x = Coasts.at(50, 0, 50, 300);
+        FoghornExchange y = Coasts.at(50, 0, 50, 100);
+        due.is("39 no way to one by both", true, x::isInOrder);
+        due.is("39 the same relays", true, y::isInOrder);
+        set(get(x, "coast"), "reached", new int[2]);
+        set(get(y, "coast"), "reached", new int[2]);
+        due.is("39 enough for one step", true, x::isInOrder);
+        due.is("39 no way by steps, but one by joining", false, y::isInOrder);
     }
 
     private static Field field(Object object, String name) throws ReflectiveOperationException {
