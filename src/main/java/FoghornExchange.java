@@ -887,7 +887,7 @@ public final class FoghornExchange {
             for (int channel = 0; channel < speakers.length; channel++) {
                 RadioCall speaker = speakers[channel];
                 boolean canHave = speaker == null || call.canBreakInOn(speaker);
-                if (!canHave && speaker.sharesStationWith(way)) {
+                if (speaker != null && !canHave && speaker.sharesStationWith(way)) {
                     return false;
                 }
                 if (canHave && call.mayHave(channel)) {
